@@ -890,7 +890,7 @@ public final class ConvoyRoom {
      * days and the FUEL that are left are known, with far fewer pairs than days times FUEL.
      */
     private static final class Pilot {
-        /** A worth holds danger, days and fuel in one number, so that they compare in that order. */
+        /** A worth holds danger, days, fuel in one number, so that they compare in that order. */
         private static final int DANGER_UNIT = 4096;
         private static final int DAY_UNIT = 64;
         private static final int NEVER = 1 << 29;

@@ -154,14 +154,31 @@ public final class OracleTest {
             both("route", from, near(from, far), chance.nextInt(12), chance.nextInt(12));
             for (int j = 0; j < 4; j++) {
                 int start = near(from, far + 3);
-                both("apart", start, near(start, far), chance.nextInt(15), chance.nextInt(9),
-                        chance.nextInt(3));
-                wholeRoutes();
+                tightApart(start, near(start, far), 2 + chance.nextInt(14), chance.nextInt(3));
             }
             both("danger", chance.nextInt(12), chance.nextInt(12), chance.nextInt(3) - 1);
             both("word", chance.nextInt(5), near(from, 6));
             both("word", chance.nextInt(5), near(from, 6));
             wholeRoutes();
+        }
+    }
+
+    /** Less and less FUEL, and days cut down to what was needed, and one less. */
+    private void tightApart(int from, int to, int days, int e) {
+        int fuel = 40;
+        for (int i = 0; i < 4 && both("apart", from, to, days, fuel, e) >= 0; i++) {
+            wholeRoutes();
+            int needed = (int) both("cell", 1, -1);
+            fuel = (int) both("cell", 1, -2);
+            both("apart", from, to, needed, fuel, e);
+            wholeRoutes();
+            if (needed > 0 && both("apart", from, to, needed - 1, fuel, e) >= 0) {
+                wholeRoutes();
+            }
+            if (fuel == 0) {
+                return;
+            }
+            fuel--;
         }
     }
 
@@ -212,7 +229,8 @@ public final class OracleTest {
 
     public static void main(String[] args) {
         Check check = new Check("OracleTest");
-        OracleTest test = new OracleTest(args.length > 0 ? Long.parseLong(args[0]) : 20261116L, check);
+        long seed = args.length > 0 ? Long.parseLong(args[0]) : 20261116L;
+        OracleTest test = new OracleTest(seed, check);
         for (int part = 0; part < PARTS.length; part++) {
             for (int i = 0; i < RUNS[part]; i++) {
                 test.runPart(part, i);

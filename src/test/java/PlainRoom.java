@@ -250,7 +250,8 @@ final class PlainRoom {
     public int comes(int plan) {
         if (!in(plan, 0, 3)) return -1;
         for (int t = 0; t <= 600; t++) {
-            if (between(centreAt(plan, t), lurkerPlace()) <= sq(1000L * lurker[2] * t + lurker[3])) {
+            long way = 1000L * lurker[2] * t + lurker[3];
+            if (between(centreAt(plan, t), lurkerPlace()) <= sq(way)) {
                 return t;
             }
         }
