@@ -870,7 +870,7 @@ public final class ConvoyRoom {
         int fuelLimit = 0;
 
         int cellOn(int day) {
-            return cells[Math.max(0, Math.min(day, days))];
+            return cells[day < days ? day : days];
         }
 
         int fuelTill(int day) {
@@ -1005,7 +1005,7 @@ public final class ConvoyRoom {
             return least;
         }
 
-        /** An idle day is spent ahead of a going one, whose row for this i is not yet written. */
+        /** The CELL's own worth is still the one with an idle day less: one row serves for all. */
         private int worthOfStaying(int g, int i, int cell) {
             int rest = NEVER;
             if (i > 0) {
@@ -1037,13 +1037,15 @@ public final class ConvoyRoom {
             if (gap == ALONE) {
                 return true;
             }
-            return (day == 0 || isBeyondGap(cell, other.cellOn(day - 1)))
+            return (day < 1 || isBeyondGap(cell, other.cellOn(day - 1)))
                     && isBeyondGap(cell, other.cellOn(day))
                     && isBeyondGap(cell, other.cellOn(day + 1));
         }
 
         private boolean isBeyondGap(int a, int b) {
-            return Math.abs(a % SIDE - b % SIDE) > gap || Math.abs(a / SIDE - b / SIDE) > gap;
+            int dx = a % SIDE - b % SIDE;
+            int dy = a / SIDE - b / SIDE;
+            return dx > gap || dx < -gap || dy > gap || dy < -gap;
         }
 
         private int longOf(int g, int i, int cell) {
