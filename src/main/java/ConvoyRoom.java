@@ -11,6 +11,8 @@ public final class ConvoyRoom {
 
     /** Added to a refusal where the plain one could be mistaken for a course or a danger. */
     private static final int MASKED = -100;
+    /** More than any square of a distance and any MISFIT can be. */
+    private static final long BEYOND_ALL = 1L << 62;
 
     private static final int PLANS = 4;
     private static final int MOST_TURNS = 12;
@@ -661,7 +663,7 @@ public final class ConvoyRoom {
         }
 
         void findNearest(Plan plan, Fog fog, int n) {
-            leastSquare = Long.MAX_VALUE;
+            leastSquare = BEYOND_ALL;
             beginAll();
             for (int t = 0; t <= n; t++) {
                 long square = squareOfPair();
@@ -702,7 +704,7 @@ public final class ConvoyRoom {
 
         /** Of the pair that is nearest now; beyond all squares if there are not two ships. */
         private long squareOfPair() {
-            long least = Long.MAX_VALUE;
+            long least = BEYOND_ALL;
             for (int i = 0; i < count; i++) {
                 for (int j = i + 1; j < count; j++) {
                     long square = squareOf(ships[i].nowX - ships[j].nowX,
@@ -773,7 +775,8 @@ public final class ConvoyRoom {
         }
 
         void findMix(int n) {
-            mixedSum = Integer.MAX_VALUE;
+            // One more than the greatest WORST there can be: all the WEIGHTS together.
+            mixedSum = n + 1;
             for (int a = 0; a <= n; a++) {
                 for (int b = 0; b <= n - a; b++) {
                     for (int c = 0; c <= n - a - b; c++) {
@@ -1117,7 +1120,7 @@ public final class ConvoyRoom {
         }
 
         void explain(Plan plan, Fog fog) {
-            misfit = Long.MAX_VALUE;
+            misfit = BEYOND_ALL;
             for (int i = 0; i < CLOCKS.length; i++) {
                 ghost.clock = CLOCKS[i];
                 goTheWay(plan, fog);

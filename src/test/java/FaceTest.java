@@ -15,6 +15,7 @@ import java.util.regex.Pattern;
 public final class FaceTest {
     private static final Check CHECK = new Check("FaceTest");
     private static final Path SOURCE = Path.of("src/main/java/ConvoyRoom.java");
+    private static final Path DOCUMENT = Path.of("../shared/DOC.md");
 
     private static final String[] FACE = {
         "int turn 3", "int clear 1", "int ofTurn 3", "int course 2", "long ground 3", "int steer 1",
@@ -60,6 +61,49 @@ public final class FaceTest {
                 && Modifier.isPublic(made[0].getModifiers()));
     }
 
+    /** Each line of the document's face stands in the source as it is, in the document's order. */
+    private static void document() throws IOException {
+        String text = Files.readString(DOCUMENT);
+        int start = text.indexOf("```java");
+        int end = text.indexOf("```", start + 3);
+        must("the document has its face", start >= 0 && end > start);
+        String source = Files.readString(SOURCE);
+        int at = 0;
+        int lines = 0;
+        for (String line : text.substring(start, end).split("\n")) {
+            String words = line.strip();
+            if (!words.startsWith("public ")) {
+                continue;
+            }
+            boolean isField = words.contains(" = ");
+            String due = isField || words.endsWith("{") ? words : words.replace(";", " {");
+            int found = source.indexOf(due, at);
+            must("in its place: " + due, found >= 0);
+            at = Math.max(at, found);
+            lines++;
+        }
+        CHECK.due("lines of the face", lines, FACE.length + 4);
+        headings(text, source);
+    }
+
+    /** What the interface says ahead of some calls stands ahead of them, and of no others. */
+    private static void headings(String text, String source) {
+        Matcher m = Pattern.compile("Ahead of the calls (.*?) the interface says: (---- .*?)\\.")
+                .matcher(text);
+        int parts = 0;
+        while (m.find()) {
+            parts++;
+            int at = source.indexOf("// " + m.group(2) + "\n");
+            int next = source.indexOf("// ----", at + 1);
+            must("there is " + m.group(2), at >= 0 && next > at);
+            for (String call : m.group(1).replace("`", "").split(", ")) {
+                int there = source.indexOf(" " + call + "(", at);
+                must(call + " stands below " + m.group(2), there >= 0 && there < next);
+            }
+        }
+        CHECK.due("parts of the interface", parts, 5);
+    }
+
     /** Rules 1, 2, 5 and 11, as far as they show in the classes. */
     private static void classes() {
         Class<?>[] inside = ConvoyRoom.class.getDeclaredClasses();
@@ -81,6 +125,8 @@ public final class FaceTest {
             boolean isStatic = Modifier.isStatic(f.getModifiers());
             fields += isStatic ? 0 : 1;
             must(f + " is final if static", !isStatic || Modifier.isFinal(f.getModifiers()));
+            must(f + " is of a type that a static may have", !isStatic || Set.of(int.class,
+                    long.class, int[].class).contains(f.getType()));
         }
         must(c + " has at most twenty fields", fields <= 20);
         for (Method m : c.getDeclaredMethods()) {
@@ -113,10 +159,24 @@ public final class FaceTest {
         must("no method reference", !code.contains("::"));
         must("nothing exact", !code.contains("Exact"));
         must("no texts", code.indexOf('"') < 0);
-        Matcher library = Pattern.compile("\\b(Math|Integer|Long)\\.(\\w+)").matcher(code);
-        Set<String> known = Set.of("abs", "max", "min", "bitCount", "MAX_VALUE");
-        while (library.find()) {
-            must("known " + library.group(), known.contains(library.group(2)));
+        must("no loop without an end", !code.contains("while (true") && !code.contains(";;"));
+        library(code);
+    }
+
+    /** Rules 3 and 4: own classes, and of the library the functions that are listed alone. */
+    private static void library(String code) {
+        Set<String> types = new TreeSet<>(Set.of("ConvoyRoom", "Math", "Integer"));
+        for (Class<?> c : ConvoyRoom.class.getDeclaredClasses()) {
+            types.add(c.getSimpleName());
+        }
+        Matcher type = Pattern.compile("\\b[A-Z]\\w*[a-z]\\w*").matcher(code);
+        while (type.find()) {
+            must("known type " + type.group(), types.contains(type.group()));
+        }
+        Set<String> functions = Set.of("Math.abs", "Math.max", "Math.min", "Integer.bitCount");
+        Matcher used = Pattern.compile("\\b(Math|Integer)\\b[.\\w]*").matcher(code);
+        while (used.find()) {
+            must("known function " + used.group(), functions.contains(used.group()));
         }
     }
 
@@ -142,6 +202,7 @@ public final class FaceTest {
 
     public static void main(String[] args) throws Exception {
         face();
+        document();
         classes();
         words();
         lengths();
