@@ -593,7 +593,7 @@ public final class ConvoyRoom {
         }
     }
 
-    /** Minutes by the right clock in which no ship turns. */
+    /** Minutes by the right clock in which the COURSE of all ships is 0. */
     private static final class Fog {
         int from = 0;
         int to = 0;
